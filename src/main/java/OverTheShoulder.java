@@ -997,7 +997,7 @@ public final class OverTheShoulder {
             }
         }
 
-        /** The place of the first letter with which no train can go on (the end, if something lacks); NONE without such. */
+        /** The place of the first letter with which no train can go on, or the end; NONE without such. */
         int formFault() {
             int place = 0;
             for (int statement = 0; statement < LETTERS && (statement == 0 || place < told); statement++) {

@@ -97,7 +97,7 @@ public final class ModelTest {
             case 21 -> x.seat(a);
             case 22 -> x.more(a, b);
             case 23 -> x.both(a, b);
-            case 24 -> x.chance(a, 2 * b, d);
+            case 24 -> x.chance(a, 2 * b + (c & 1), d);
             case 25 -> x.missed(a);
             case 26 -> x.left(a);
             case 27 -> x.kinds(a, b * 2 + d);
@@ -135,7 +135,7 @@ public final class ModelTest {
             case 21 -> model.seat(a);
             case 22 -> model.more(a, b);
             case 23 -> model.both(a, b);
-            case 24 -> model.chance(a, 2 * b, d);
+            case 24 -> model.chance(a, 2 * b + (c & 1), d);
             case 25 -> model.missed(a);
             case 26 -> model.left(a);
             case 27 -> model.kinds(a, b * 2 + d);

@@ -601,7 +601,9 @@ public final class PromisesTest {
         x.row(0);
         is("26: sure, above", x.chance(0, 3, 0), 6);
         is("26: sure, below", x.chance(0, 3, 1), 1);
-        is("26: three of five, above", x.chance(0, 4, 0), 24);
+        is("26: with halves, above", x.chance(0, 1, 0), 6);
+        is("26: with halves, below", x.chance(0, 1, 1), 1);
+        is("26: four of five, above", x.chance(0, 4, 0), 24);
         is("26: four of five, below", x.chance(0, 4, 1), 5);
         is("26: in least terms, above", x.chance(0, 5, 0), 4);
         is("26: in least terms, below", x.chance(0, 5, 1), 1);
