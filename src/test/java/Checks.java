@@ -19,6 +19,15 @@ final class Checks {
         equal(what, isSo ? 1 : 0, 1);
     }
 
+    static void text(String what, String got, String due) {
+        boolean isSo = got.equals(due);
+        holds(what, isSo);
+        if (!isSo) {
+            System.out.println("  it is  " + got);
+            System.out.println("  due is " + due);
+        }
+    }
+
     /** Tells the sum, and ends the program with exit code 1 if something failed. */
     static void end(String name) {
         System.out.println(name + ": " + passed + " passed, " + failed + " failed");

@@ -64,7 +64,9 @@ public final class FaceTest {
             inside(face, inside);
         }
         Checks.holds("at most twelve classes", face.getDeclaredClasses().length <= 11);
-        words(Path.of(args.length > 0 ? args[0] : "src/main/java/OverTheShoulder.java"));
+        Path file = Path.of(args.length > 0 ? args[0] : "src/main/java/OverTheShoulder.java");
+        words(file);
+        lengths(file);
         Checks.end("FaceTest");
     }
 
@@ -119,5 +121,23 @@ public final class FaceTest {
             Checks.holds("no '" + word + "'", !java.util.regex.Pattern.compile(letters).matcher(text).find());
         }
         Checks.holds("no other signs", text.chars().allMatch(sign -> sign < 128));
+    }
+
+    /** Some sixty lines a method, each of them of 120 signs at most. */
+    private static void lengths(Path file) throws IOException {
+        int[] start = {0, 0, 0};
+        List<String> lines = Files.readAllLines(file);
+        for (int i = 0; i < lines.size(); i++) {
+            String line = lines.get(i);
+            int depth = (line.length() - line.stripLeading().length()) / 4;
+            Checks.holds("line " + (i + 1) + " is no longer than 120 signs", line.length() <= 120);
+            if (depth >= 1 && depth <= 2 && line.matches(" +(?!if|for|while|switch|else|do)\\w.*\\) \\{")) {
+                start[depth] = i + 1;
+            }
+            if (line.matches(" {4}\\}| {8}\\}") && start[depth] > 0) {
+                Checks.holds("what begins in line " + start[depth] + " is short", i + 1 - start[depth] <= 60);
+                start[depth] = 0;
+            }
+        }
     }
 }
