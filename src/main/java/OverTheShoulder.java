@@ -626,7 +626,7 @@ public final class OverTheShoulder {
     }
 
     private int readByPlan(Looker who) {
-        mostOf(who);
+        search.greatest(scene.sheet, scene.held, who, ENDLESS);
         int readLines = who.readLines;
         for (int i = 0; i < search.bestLength; i++) {
             int line = scene.sheet.nextLine(search.planned(i), readLines);
@@ -766,7 +766,7 @@ public final class OverTheShoulder {
             boolean helped = false;
             for (int other = 0; other < line && other < lines; other++) {
                 if (at(column, other) == at(column, line)) {
-                    helped = kindOf(other) != GUESSED;
+                    helped = at(kind, other) != GUESSED;
                 }
             }
             return helped;
@@ -1119,7 +1119,7 @@ public final class OverTheShoulder {
 
         /** The letter at a place; -1 behind the end. */
         private int letterAt(int place) {
-            return place >= 0 && place < told ? at(letters, place) : -1;
+            return place >= 0 && place < told && place < letters.length ? letters[place] : -1;
         }
 
         private int digitAt(int place) {
